@@ -11,7 +11,7 @@ final class Check {
     }
 
     /** Answers are compared as texts, so that an int, a boolean and a String can be told alike. */
-    static void due(String what, Object want, Call call) {
+    static boolean due(String what, Object want, Call call) {
         calls++;
         String got;
         try {
@@ -19,10 +19,12 @@ final class Check {
         } catch (RuntimeException e) {
             got = nameOf(e.getClass());
         }
-        if (!got.equals(String.valueOf(want))) {
+        boolean isDue = got.equals(String.valueOf(want));
+        if (!isDue) {
             wrong++;
             System.out.println(what + " answered " + got + ", due is " + want);
         }
+        return isDue;
     }
 
     static void refused(String what, Class<? extends RuntimeException> want, Call call) {

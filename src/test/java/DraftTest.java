@@ -60,6 +60,10 @@ final class DraftTest {
         Check.due("computed field to ABSENT", 2, () -> f.setType(1, FormWright.ABSENT));
         Check.due("isBroken of the ABSENT field", true, () -> f.isBroken(1));
         Check.due("computed field back", 0, () -> f.setType(1, FormWright.NUMBER));
+        Forms.formula(f, 0, "5");
+        Check.due("the lowest formula", 3, () -> f.setType(0, FormWright.CHOICE));
+        Check.due("isBroken of the lowest", true, () -> f.isBroken(0));
+        Check.due("the lowest one back", 0, () -> f.setType(0, FormWright.NUMBER));
         Check.due("a NUMBER and a NUMBER", 0, () -> f.setType(4, FormWright.NUMBER));
         Check.due("a FLAG and a NUMBER", 1, () -> f.setType(4, FormWright.FLAG));
         for (int none : NO_FORMULA) {

@@ -236,6 +236,14 @@ final class ReviewTest {
         f.publish();
         Check.due("a computed field too, and what its dropped formula has", 2 + 32 + 16, () -> f.doubts(answer));
         Check.due("and the later one", 1 + 32 + 16, () -> f.doubts(later));
+        FormWright g = Forms.typed("122000");
+        Forms.formula(g, 6, "c");
+        g.publish();
+        Forms.handedIn(g, 1, 1, 1);
+        Forms.formula(g, 6, "b");
+        g.setType(1, FormWright.NUMBER);
+        g.publish();
+        Check.due("a formula of one other letter", 2, () -> g.doubts(0));
     }
 
     private static void doubtsByDroppedFormulas() {
@@ -262,11 +270,11 @@ final class ReviewTest {
         g.dropFormula(1);
         g.publish();
         Check.due("dropped by hand", 0, () -> g.doubts(0));
-        FormWright h = Forms.typed("112000");
-        Forms.formula(h, 2, "a<b");
+        FormWright h = Forms.typed("211000");
+        Forms.formula(h, 0, "b<c");
         h.publish();
-        Forms.handedIn(h, 1, 2);
-        h.setType(2, FormWright.NUMBER);
+        Forms.handedIn(h, null, 1, 2);
+        h.setType(0, FormWright.NUMBER);
         h.publish();
         Check.due("the computed field by its type, the letters by its formula", 7, () -> h.doubts(0));
     }
@@ -278,6 +286,7 @@ final class ReviewTest {
         expectDoubts("a<b&c", 6, "c&a<b", 6, 4);
         expectDoubts("a<b&c", 6, "a>b&c", 6, 4);
         expectDoubts("a<b&c", 6, "a<b", 6, 4);
+        expectDoubts("b>a&c", 6, "a<b&c", 6, 4);
         expectDoubts("c", 6, "c&c", 6, 4);
         expectDoubts("c&c", 6, "c", 6, 4);
         expectDoubts("a<b&c", 6, "a<b&c", 7, 4);

@@ -49,6 +49,7 @@ final class VersionTest {
 
     private static void brokenOnesAreDropped() {
         FormWright f = Forms.typed("111200");
+        Forms.formula(f, 0, "c");
         Forms.formula(f, 1, "a+1");
         Forms.formula(f, 6, "d");
         Forms.formula(f, 7, "a<c");
@@ -56,6 +57,7 @@ final class VersionTest {
         Check.due("publish", 0, () -> f.publish());
         Check.due("not broken any more", false, () -> f.isBroken(1));
         Check.due("dropped from the draft", false, () -> f.dropFormula(1));
+        Check.due("the lowest one too", false, () -> f.dropFormula(0));
         Check.due("the broken check too", false, () -> f.dropFormula(7));
         Check.due("not in the version", "", () -> Forms.plain(f, 0, 1));
         Check.due("nor the check", "", () -> Forms.plain(f, 0, 7));
