@@ -13,12 +13,7 @@ final class Check {
     /** Answers are compared as texts, so that an int, a boolean and a String can be told alike. */
     static boolean due(String what, Object want, Call call) {
         calls++;
-        String got;
-        try {
-            got = String.valueOf(call.answer());
-        } catch (RuntimeException e) {
-            got = nameOf(e.getClass());
-        }
+        String got = told(call);
         boolean isDue = got.equals(String.valueOf(want));
         if (!isDue) {
             wrong++;
@@ -29,6 +24,15 @@ final class Check {
 
     static void refused(String what, Class<? extends RuntimeException> want, Call call) {
         due(what, nameOf(want), call);
+    }
+
+    /** The answer of a call as a text, or the exception that it throws. */
+    static String told(Call call) {
+        try {
+            return String.valueOf(call.answer());
+        } catch (RuntimeException e) {
+            return nameOf(e.getClass());
+        }
     }
 
     static String nameOf(Class<?> exception) {
